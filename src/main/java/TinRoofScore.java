@@ -383,7 +383,7 @@ public final class TinRoofScore {
         }
     }
 
-    /** An order's word, and for each of its numbers the most digits that it has. */
+    /** The digits are the most that each number may have, so that one reader serves all orders. */
     private enum Order {
         BAR("bar", "1"),
         KEY("key", "12"),
@@ -403,7 +403,7 @@ public final class TinRoofScore {
         }
     }
 
-    /** All that changes can change: bars, tins, sounds, the limit and two counts. */
+    /** All that changes can change, in one class, so that undo, save and a failing text bring it back whole. */
     private static final class Print {
         private final int[] sizes = new int[MOST_BARS];
         private final int[] keys = new int[TINS];
@@ -624,7 +624,6 @@ public final class TinRoofScore {
             return NONE;
         }
 
-        /** How many beats of the sound are in the bar: 0 if it has no part there. */
         private int overlap(int sound, int bar) {
             int barStart = startOfBar(bar);
             int soundStart = startOfSound(sound);
@@ -711,7 +710,7 @@ public final class TinRoofScore {
         }
     }
 
-    /** Tells whether an order can be carried out, keeps why not, and carries it out. */
+    /** Apart from the print, as the latest refusal is neither undone nor saved. */
     private static final class Judge {
         private static final int IS_FULL = 1;
         private static final int IS_SO = 2;
@@ -865,7 +864,7 @@ public final class TinRoofScore {
         }
     }
 
-    /** Reads the print for faults, in two ways. */
+    /** The way by beats shares no count with the other one, so that isWell tells something. */
     private static final class Proof {
         private final Print print;
 
@@ -1004,7 +1003,6 @@ public final class TinRoofScore {
         }
     }
 
-    /** The pitches of the drops, one behind the other, rests left out. */
     private static final class Melody {
         private final Print print;
 
@@ -1093,7 +1091,7 @@ public final class TinRoofScore {
         }
     }
 
-    /** Tins and drops in an order: the place of each is how many go ahead of it. */
+    /** A place is how many go ahead: nothing is sorted, so that no call makes rows. */
     private static final class Ranking {
         private final Print print;
 
@@ -1154,7 +1152,7 @@ public final class TinRoofScore {
         }
     }
 
-    /** The line that was written last. */
+    /** Apart from the print, as the line is neither undone nor saved. */
     private static final class Line {
         private final Print print;
         private final char[] signs = new char[LONGEST_LINE];
@@ -1216,7 +1214,7 @@ public final class TinRoofScore {
         }
     }
 
-    /** The input, and the orders of the text that was read last. */
+    /** Apart from the print, as the input and the error position are neither undone nor saved. */
     private static final class Text {
         private final char[] signs = new char[MOST_SIGNS];
         private final Order[] orders = new Order[MOST_ORDERS];
@@ -1299,7 +1297,7 @@ public final class TinRoofScore {
             return true;
         }
 
-        /** No word begins with another one, so the first that stands there whole is the one. */
+        // No word begins with another one, so the first that stands there whole is the one.
         private Order readWord() {
             int most = 0;
             for (int i = 0; i < ORDERS.length; i++) {
@@ -1359,7 +1357,7 @@ public final class TinRoofScore {
         }
     }
 
-    /** The prints ahead of the latest changes, in a ring. */
+    /** A ring of pages made once, as what all calls make is counted. */
     private static final class History {
         private final Print[] pages = new Print[MOST_UNDONE];
         private int next = 0;

@@ -33,6 +33,7 @@ public final class TextsAndUndoTest {
         undo();
         undoEach();
         saveAndRestore();
+        otherSoundsBetween();
         Due.end();
     }
 
@@ -214,7 +215,7 @@ public final class TextsAndUndoTest {
         Object[][] rows = {
             {"", 0}, {"x", 0}, {" bar 4", 0}, {";", 0}, {"B", 0}, {"b", 1}, {"ba", 2}, {"bar", 3}, {"bar ", 4},
             {"bar  4", 4}, {"bar4", 3}, {"bar x", 4}, {"bar 44", 5}, {"bar 4 ", 5}, {"bar 4;", 6}, {"bar 4; ", 6},
-            {"bar 4;;", 6}, {"bar -4", 4}, {"br", 1}, {"l", 1}, {"lx", 1}, {"lex", 2}, {"lim", 3}, {"lip", 2},
+            {"bar 4;;", 6}, {"bar -4", 4}, {"bar :", 4}, {"bar /", 4}, {"limit 1:", 7}, {"br", 1}, {"l", 1}, {"lx", 1}, {"lex", 2}, {"lim", 3}, {"lip", 2},
             {"lifx", 3}, {"lift ", 4}, {"liftt", 4}, {"lift 0", 4}, {"lift;l", 6}, {"lift;lift;lo", 11},
             {"key 0", 5}, {"key 00", 5}, {"key 0 ", 6}, {"key 0 123", 8}, {"key 0 1 ", 7}, {"key 0 1x", 7}, {"kex", 2},
             {"leak 0 00", 8}, {"leak 10 0", 6}, {"drop 0 0", 8}, {"drop 0 0 ", 9}, {"drop 0 0 11", 10}, {"dr0p", 2},
@@ -395,5 +396,25 @@ public final class TextsAndUndoTest {
         Due.is("save in place of the earlier one", x.save(), 1);
         x.lift();
         Due.is("restore the later one", x.restore(), 1);
+    }
+
+    private static void otherSoundsBetween() {
+        TinRoofScore x = made("bar 3;bar 4;key 1 2;leak 2 1", "drop 1 3 2;rest 2;drop 3 5 1");
+        List<Object> before = Due.look(x);
+        x.save();
+        x.undo();
+        x.undo();
+        Due.runText(x, "bar 8;bar 2;key 3 6;leak 0 2");
+        Due.runText(x, "rest 0;drop 0 9 3;rest 0");
+        List<Object> other = Due.look(x);
+        x.restore();
+        before.set(11, 0);
+        Due.is("restored over others", Due.look(x), before);
+        Due.runText(x, "lift;lift;lift");
+        Due.runText(x, "leak 0 2;rest 0;drop 0 9 3");
+        x.undo();
+        x.undo();
+        Due.is("undone over others", Due.look(x), before);
+        Due.is("others were others", other.equals(before), false);
     }
 }
