@@ -21,8 +21,12 @@ public final class BarsAndSoundsTest {
         drop();
         rest();
         lift();
+        afterLifts();
         limit();
         tune();
+        fewSoundsOfManyParts();
+        manySoundsInOneBar();
+        sixBars();
         tinOf();
         soundOf();
         barOf();
@@ -43,6 +47,14 @@ public final class BarsAndSoundsTest {
         x.rest(1);
         x.drop(1, 3, 3);
         x.drop(0, 9, 2);
+        return x;
+    }
+
+    private static TinRoofScore barsOf(int... sizes) {
+        TinRoofScore x = new TinRoofScore();
+        for (int size : sizes) {
+            x.bar(size);
+        }
         return x;
     }
 
@@ -193,6 +205,135 @@ public final class BarsAndSoundsTest {
         Due.is("sounds", y.account(3), 1);
         Due.is("drop again", y.drop(3, 1, 1), 1);
         Due.is("drop again tin", y.soundOf(1, 0), 3);
+    }
+
+    private static void answers(String what, TinRoofScore x, int... accounts) {
+        for (int i = 0; i < accounts.length; i++) {
+            Due.is(what + " account " + i, x.account(i), accounts[i]);
+        }
+    }
+
+    private static void afterLifts() {
+        TinRoofScore x = barsOf(8, 8, 8);
+        x.key(2, 5);
+        x.leak(1, 3);
+        x.drop(0, 4, 3);
+        x.drop(2, 9, 8);
+        x.rest(1);
+        x.drop(2, 6, 2);
+        x.rest(1);
+        x.drop(3, 9, 1);
+        Due.is("lift the drop 5", x.lift(), 1);
+        Due.is("lift the rest 4", x.lift(), 3);
+        Due.is("lift the drop 3", x.lift(), 2);
+        answers("after lifts", x, 3, 24, 14, 3, 2, 1, 4, 4, 6, 3, 0, 8);
+        int[][] tins = {{0, 0, 1, 0, 3}, {0, 3, 0, 1, 3}, {5, 0, 1, 0, 8}, {0, 0, 0, 0, 0}};
+        for (int tin = 0; tin < 4; tin++) {
+            for (int what = 0; what < 5; what++) {
+                Due.is("tin " + tin + " after lifts " + what, x.tinOf(tin, what), tins[tin][what]);
+            }
+        }
+        int[][] bars = {{8, 8, 2, 2, 0}, {8, 6, 2, 1, 8}, {8, 0, 0, 0, 16}};
+        for (int bar = 0; bar < 3; bar++) {
+            for (int what = 0; what < 5; what++) {
+                Due.is("bar " + bar + " after lifts " + what, x.barOf(bar, what), bars[bar][what]);
+            }
+        }
+        Due.is("last beat after lifts", x.at(13), 2);
+        Due.fails("a lifted beat", ELEMENT, () -> x.at(14));
+        Due.fails("a lifted sound", INDEX, () -> x.soundOf(3, 0));
+        Due.fails("tune a lifted sound", INDEX, () -> x.tune(3, 0));
+        Due.fails("wouldFault of a lifted sound", INDEX, () -> x.wouldFault(3, 0));
+        Due.fails("bestHeight of a lifted sound", INDEX, () -> x.bestHeight(3));
+        Due.fails("a lifted part", INDEX, () -> x.partOf(1, 2, 0));
+        Due.fails("a lifted part of a bar now empty", INDEX, () -> x.partOf(2, 0, 0));
+        afterLiftsAgain(x);
+    }
+
+    private static void afterLiftsAgain(TinRoofScore x) {
+        for (int rule = 1; rule <= 4; rule++) {
+            Due.is("faults after lifts of " + rule, x.faults(rule, false), 0);
+            Due.is("faults after lifts again of " + rule, x.faults(rule, true), 0);
+        }
+        Due.is("clean after lifts", x.isClean(), true);
+        Due.is("well after lifts", x.isWell(), true);
+        Due.is("walk after lifts", x.walk(false), 2);
+        Due.is("walk after lifts again", x.walk(true), 2);
+        Due.is("ups after lifts", x.goes(true), 0);
+        Due.is("downs after lifts", x.goes(false), 1);
+        Due.is("span after lifts", x.span(), 2);
+        for (int pitch = 0; pitch < 12; pitch++) {
+            Due.is("drops of " + pitch + " after lifts", x.withPitch(pitch), pitch == 2 || pitch == 4 ? 1 : 0);
+        }
+        int[] loudest = {2, 0, 1, 3};
+        for (int place = 0; place < 4; place++) {
+            Due.is("loudest after lifts " + place, x.loudest(place), loudest[place]);
+        }
+        Due.is("highest after lifts", x.highest(0), 0);
+        Due.is("second highest after lifts", x.highest(1), 1);
+        Due.fails("no third one", ELEMENT, () -> x.highest(2));
+        Due.is("line of the bar 1 after lifts", Due.barLine(x, 1), "~c3 .3 _2");
+        Due.is("line of the bar 2 after lifts", Due.barLine(x, 2), "_8");
+        Due.is("mean after lifts", x.meanPitch(), 3.0);
+        Due.is("share after lifts", x.filledShare(), 14.0f / 24.0f);
+    }
+
+    private static void fewSoundsOfManyParts() {
+        TinRoofScore x = barsOf(2, 2, 2, 2, 2, 2);
+        x.key(0, 11);
+        x.drop(1, 2, 8);
+        x.drop(1, 3, 3);
+        answers("two sounds", x, 6, 12, 11, 2, 2, 0, 6, 4, 2, 0, 0, 8);
+        Due.is("drops of the tin", x.tinOf(1, 2), 2);
+        Due.is("of the other tin", x.tinOf(0, 2) + x.tinOf(0, 4), 0);
+        Due.is("span of two", x.span(), 1);
+        Due.is("walk of two", x.walk(false), 1);
+        Due.is("ups of two", x.goes(true), 1);
+        Due.is("downs of two", x.goes(false), 0);
+        Due.is("mean of two", x.meanPitch(), 2.5);
+        Due.is("drops of 11", x.withPitch(11), 0);
+        Due.is("highest of two", x.highest(0), 1);
+        Due.is("lowest of two", x.highest(1), 0);
+        Due.is("loudest", x.loudest(0), 1);
+        Due.is("loudest of those without beats", x.loudest(1), 0);
+        TinRoofScore y = barsOf(2, 2);
+        y.leak(2, 3);
+        y.rest(2);
+        Due.is("one rest at the first beats of two bars", y.faults(3, false), 2);
+        Due.is("again", y.faults(3, true), 2);
+        Due.is("the first of them", y.firstFault(3), 0);
+    }
+
+    private static void manySoundsInOneBar() {
+        TinRoofScore x = barsOf(8);
+        x.leak(3, 1);
+        x.drop(2, 0, 1);
+        for (int i = 1; i < 8; i++) {
+            x.rest(3);
+        }
+        answers("eight sounds", x, 1, 8, 8, 8, 1, 7, 8, 4, 8, 0, 0, 8);
+        Due.is("parts", x.barOf(0, 2), 8);
+        Due.is("begin in it", x.barOf(0, 3), 8);
+        Due.is("rests", x.tinOf(3, 3), 7);
+        Due.is("drops", x.tinOf(3, 2), 0);
+        Due.is("beats", x.tinOf(3, 4), 7);
+        Due.is("the eighth part", x.partOf(0, 7, 0), 7);
+    }
+
+    private static void sixBars() {
+        TinRoofScore x = barsOf(2, 3, 4, 5, 6, 8);
+        x.limit(1);
+        Due.is("beats of six bars", x.account(1), 28);
+        Due.is("share of six bars", x.filledShare(), 0.0f);
+        for (int i = 0; i < 3; i++) {
+            x.drop(0, 0, 8);
+        }
+        Due.fails("one beat too many", REFUSED, () -> x.drop(0, 0, 5));
+        Due.is("the free beats", x.refusal(true), 4);
+        x.drop(0, 0, 4);
+        Due.is("all filled", x.filledShare(), 1.0f);
+        Due.is("the last beat", x.at(27), 3);
+        Due.is("begin of the last bar", x.barOf(5, 4), 20);
     }
 
     private static void limit() {

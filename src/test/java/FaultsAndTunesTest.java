@@ -303,6 +303,14 @@ public final class FaultsAndTunesTest {
         for (int pitch : new int[] {LEAST, -1, 12, MOST}) {
             Due.fails("withPitch " + pitch, ARGUMENT, () -> x.withPitch(pitch));
         }
+        TinRoofScore y = barsOf(8);
+        drops(y, 9);
+        Due.is("span of the first one", y.span(), 0);
+        Due.is("withPitch of the first one", y.withPitch(9), 1);
+        drops(y, 2);
+        Due.is("span of two", y.span(), 7);
+        drops(y, 3);
+        Due.is("span from the first one", y.span(), 7);
     }
 
     private static void tinOrder(TinRoofScore x, int... want) {
@@ -352,5 +360,15 @@ public final class FaultsAndTunesTest {
         }
         x.key(1, 2);
         Due.is("pitch 11 now", x.highest(0), 5);
+        TinRoofScore y = barsOf(8, 8);
+        drops(y, 3);
+        Due.is("the first one alone", y.highest(0), 0);
+        Due.fails("no second one", ELEMENT, () -> y.highest(1));
+        for (int i = 1; i < 16; i++) {
+            drops(y, 3);
+        }
+        for (int place = 0; place < 16; place++) {
+            Due.is("sixteen alike " + place, y.highest(place), place);
+        }
     }
 }

@@ -175,20 +175,20 @@ public final class TextsAndUndoTest {
     }
 
     private static void runRefusals() {
-        TinRoofScore x = made("bar 4;leak 1 2;key 2 7;drop 0 5 1;rest 1");
-        refused(x, "bar 2;bar 2;bar 2;bar 2;bar 2;bar 2", 1, 6);
-        refused(x, "key 2 7", 2, 7);
-        refused(x, "leak 1 2", 2, 2);
-        refused(x, "drop 3 0 2", 3, 1);
-        refused(x, "rest 2", 4, 7);
-        refused(x, "rest 1", 3, 1);
-        refused(x, "lift;lift;lift", 5, 1);
-        refused(x, "limit 4", 2, 4);
-        refused(x, "tune 1 5", 6, 2);
-        refused(x, "tune 0 5", 2, 5);
+        refused("bar 2;bar 2;bar 2;bar 2;bar 2;bar 2", 1, 6);
+        refused("key 2 7", 2, 7);
+        refused("leak 1 2", 2, 2);
+        refused("drop 3 0 2", 3, 1);
+        refused("rest 2", 4, 7);
+        refused("rest 1", 3, 1);
+        refused("lift;lift;lift", 5, 1);
+        refused("limit 4", 2, 4);
+        refused("tune 1 5", 6, 2);
+        refused("tune 0 5", 2, 5);
     }
 
-    private static void refused(TinRoofScore x, String text, int reason, int detail) {
+    private static void refused(String text, int reason, int detail) {
+        TinRoofScore x = made("bar 4;leak 1 2;key 2 7;drop 0 5 1;rest 1");
         unchanged(x, text, REFUSED);
         Due.is(text + " reason", x.refusal(false), reason);
         Due.is(text + " detail", x.refusal(true), detail);
@@ -196,12 +196,12 @@ public final class TextsAndUndoTest {
     }
 
     private static void runOutOfRange() {
-        TinRoofScore x = made("bar 4;drop 0 5 1");
         String[] texts = {
             "bar 1", "bar 9", "bar 0", "key 4 0", "key 0 12", "key 9 99", "leak 4 0", "leak 0 4", "drop 4 0 1",
             "drop 0 0 0", "drop 0 0 9", "rest 4", "limit 0", "limit 12", "limit 00", "tune 1 0", "tune 16 0", "tune 99 9",
         };
         for (String text : texts) {
+            TinRoofScore x = made("bar 4;drop 0 5 1");
             x.append('x');
             Due.fails("run x", ARGUMENT, x::run);
             Due.is("position of x", x.errorPosition(), 0);
@@ -305,6 +305,10 @@ public final class TextsAndUndoTest {
         x.key(1, 10);
         x.drop(1, 9, 3);
         Due.is("mean of 0, 1 and 7", x.meanPitch(), 8.0 / 3.0);
+        TinRoofScore y = made("bar 8;key 2 9;drop 2 2 8");
+        Due.is("mean of one of 11", y.meanPitch(), 11.0);
+        y.key(2, 10);
+        Due.is("mean of one of 12, which is 0", y.meanPitch(), 0.0);
     }
 
     private static void filledShare() {
