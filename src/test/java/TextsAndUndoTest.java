@@ -1,3 +1,4 @@
+import java.lang.reflect.Field;
 import java.util.List;
 import java.util.NoSuchElementException;
 
@@ -25,9 +26,11 @@ public final class TextsAndUndoTest {
         runRefusals();
         runOutOfRange();
         errorPositions();
+        shorterTexts();
         refusal();
         account();
         well();
+        notWell();
         meanPitch();
         filledShare();
         undo();
@@ -251,6 +254,20 @@ public final class TextsAndUndoTest {
         Due.is("no error", y.errorPosition(), -1);
     }
 
+    private static void shorterTexts() {
+        TinRoofScore x = made("key 0 11", "bar 4;bar 5");
+        Due.is("one digit where there were two", Due.runText(x, "key 0 1"), 1);
+        Due.is("key", x.tinOf(0, 0), 1);
+        Due.is("one order where there were two", Due.runText(x, "bar 6"), 1);
+        Due.is("bars", x.account(0), 3);
+        String[] texts = {"bar ", "bar", "b", "", "limit 11;limit", "limit ", "key 0 ", "key 0", "bar 4;"};
+        for (String text : texts) {
+            TinRoofScore y = made("bar 5;key 0 9;limit 7", "key 0 11;limit 11", "limit 10;key 0 2", "bar 4;bar 3");
+            Due.is("run " + text, Due.runText(y, text), BAD);
+            Due.is("ends too early: " + text, y.errorPosition(), text.length());
+        }
+    }
+
     private static void refusal() {
         TinRoofScore x = new TinRoofScore();
         Due.fails("wrong number", ARGUMENT, () -> x.bar(0));
@@ -293,6 +310,30 @@ public final class TextsAndUndoTest {
         }
         x.undo();
         Due.is("well after undo", x.isWell(), true);
+    }
+
+    // No call can make it so, and a test that cannot fail tells nothing: so the rows are spoilt from outside.
+    private static void notWell() {
+        Due.is("well as it is", spoilt("lengths", 2, 3).isWell(), true);
+        Due.is("parts without all beats", spoilt("lengths", 2, 5).isWell(), false);
+        Due.is("bars too small for the sounds", spoilt("sizes", 1, 1).isWell(), false);
+        Due.is("a pitch below 0", spoilt("heights", 0, -3).isWell(), false);
+        Due.is("a pitch above 11", spoilt("heights", 0, 30).isWell(), false);
+        Due.is("a pitch that is none", spoilt("keys", 0, -2).isWell(), false);
+    }
+
+    private static TinRoofScore spoilt(String row, int index, int number) {
+        TinRoofScore x = made("bar 4;bar 4;leak 1 1", "drop 0 1 3;rest 1;drop 2 9 3");
+        try {
+            Field print = TinRoofScore.class.getDeclaredField("print");
+            print.setAccessible(true);
+            Field cells = print.getType().getDeclaredField(row);
+            cells.setAccessible(true);
+            ((int[]) cells.get(print.get(x)))[index] = number;
+        } catch (ReflectiveOperationException e) {
+            Due.is("row " + row + " is there", false, true);
+        }
+        return x;
     }
 
     private static void meanPitch() {
