@@ -22,6 +22,7 @@ public final class BarsAndSoundsTest {
         rest();
         lift();
         afterLifts();
+        afterLiftOfARest();
         limit();
         tune();
         fewSoundsOfManyParts();
@@ -248,6 +249,20 @@ public final class BarsAndSoundsTest {
         Due.fails("a lifted part", INDEX, () -> x.partOf(1, 2, 0));
         Due.fails("a lifted part of a bar now empty", INDEX, () -> x.partOf(2, 0, 0));
         afterLiftsAgain(x);
+    }
+
+    private static void afterLiftOfARest() {
+        TinRoofScore x = barsOf(8);
+        x.leak(0, 2);
+        x.drop(0, 0, 1);
+        x.rest(0);
+        x.rest(0);
+        Due.is("lift a rest", x.lift(), 2);
+        answers("after lift of a rest", x, 1, 8, 3, 2, 1, 1, 2, 4, 3, 1, 0, 6);
+        Due.is("rests of the tin", x.tinOf(0, 3), 1);
+        Due.is("lift the other rest", x.lift(), 2);
+        answers("after lift of both", x, 1, 8, 1, 1, 1, 0, 1, 4, 3, 2, 0, 7);
+        Due.is("no rests of the tin", x.tinOf(0, 3), 0);
     }
 
     private static void afterLiftsAgain(TinRoofScore x) {

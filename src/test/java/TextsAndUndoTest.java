@@ -310,6 +310,10 @@ public final class TextsAndUndoTest {
         }
         x.undo();
         Due.is("well after undo", x.isWell(), true);
+        TinRoofScore y = made("bar 2;bar 2;bar 2;limit 1;drop 0 9 6");
+        Due.is("well with one drop in three bars", y.isWell(), true);
+        TinRoofScore z = made("bar 8;drop 0 0 4;drop 0 0 4;lift;lift;drop 0 0 8");
+        Due.is("well behind lifts", z.isWell(), true);
     }
 
     // No call can make it so, and a test that cannot fail tells nothing: so the rows are spoilt from outside.
